@@ -108,6 +108,9 @@ public final class RinkTest {
         check.due("nobody is coming at a whistle", x.status(2), 0);
         check.due("skate", Check.rink(x, "skate 1;skate 99"), 2);
         check.due("second", x.status(8), 100);
+        check.due("the last of each", Check.rink(x, "line 3 4;on 3;theirs 1;half 0;third 0"), 5);
+        check.due("ice", x.status(1), 0b10000);
+        check.due("theirs", x.status(6), 1);
         check.due("nothing was refused", x.status(12), 0);
     }
 
@@ -122,7 +125,7 @@ public final class RinkTest {
             {"line 0 0 1 2 3 4 5", 17}, {"line 0 0 1 2 3 4 9", 17}, {"line 0 0 1 2 3 4 0005", 17}, {"line 0 0 on 0", 9},
             {"line 0 0001", 7}, {"on 1", 3}, {"on 4", 3}, {"on 0", 3}, {"on", 2}, {"third 3", 6}, {"third x", 6},
             {"half 2", 5}, {"theirs 0", 7}, {"theirs 1000", 7}, {"skate 0", 6}, {"skate 100", 6}, {"skate 12 1", 9},
-            {"third 1;fourth 1", 8}, {"third 1 half 1", 8}, {"third 1;;half 1", 8}, {"third1half", 6},
+            {"third 1;fourth 1", 8}, {"bn 0", 0}, {"onz 0", 0}, {"line 0 6", 7}, {"third 1 half 1", 8}, {"third 1;;half 1", 8}, {"third1half", 6},
             {"third 1" + (char) 200, 7}, {"third " + (char) 0, 6}};
         for (Object[] f : faults) {
             OverTheBoards x = Check.from(SIX);
@@ -240,7 +243,9 @@ public final class RinkTest {
         OverTheBoards x = new OverTheBoards();
         check.due("nobody", x.five(), -5);
         check.due("stuck", x.status(15), 1);
-        Check.rink(x, "player 0 50 0;player 0 50 0;player 0 50 0");
+        x.player(0, 50, 0);
+        check.due("one alone", x.five(), 1);
+        Check.rink(x, "player 0 50 0;player 0 50 0");
         check.due("fewer than five", x.five(), 0b111);
         Check.rink(x, "player 0 50 0;player 0 50 0;player 0 50 0;player 0 50 0");
         check.due("the least as bits", x.five(), 0b11111);
@@ -250,6 +255,8 @@ public final class RinkTest {
         check.due("an early one makes 51", x.five(), 0b110000111);
         x.tell(8, 1, 10);
         check.due("not if tired", x.five(), 0b10001111);
+        x.player(0, 99, 0);
+        check.due("of ten", x.five(), 0b1010000111);
     }
 
     private static void best() {
@@ -262,6 +269,11 @@ public final class RinkTest {
         x.line(2, 0b10);
         x.line(3, 0b100000);
         check.due("freshest, the first", x.best(0), 1);
+        x.line(0, 0b1);
+        check.due("freshest, the very first", x.best(0), 0);
+        x.line(0, 0b1000);
+        check.due("strongest, the very first", x.best(1), 0);
+        x.line(0, 0);
         check.due("strongest", x.best(1), 2);
         x.tell(0, 1, 5);
         x.tell(1, 1, 20);

@@ -124,6 +124,10 @@ public final class ShelvesTest {
         check.due("of no shelf", x.element(-1, 0), 0);
         x.row(0, 2, 3);
         check.due("a shorter row", x.element(0, 4), 0);
+        x.row(3, 3, 40);
+        check.due("the last of forty", x.set(3, 39, 7), 1);
+        check.due("the last of forty", x.element(3, 39), 7);
+        check.due("behind the last of forty", x.element(3, 40), 0);
         for (int r = 12; r <= 16; r++) check.due("nothing is refused", x.status(r), 0);
     }
 

@@ -168,6 +168,9 @@ public final class ThoughtTest {
         int best = 5;
         for (int k = 6; k <= 99; k++) if (x.shifts(k, 400) > x.shifts(best, 400)) best = k;
         check.due("bestShift 400", x.bestShift(400), best);
+        x.line(1, 0b1);
+        check.due("two lines of the same player: all alike", x.bestShift(600), 5);
+        x.line(1, 0b10);
         check.due("it isn't the first", best > 5 && best < 99 ? 1 : 0, 1);
         check.due("bad", x.bestShift(-1), -2);
         check.due("bad", x.bestShift(601), -2);
@@ -226,6 +229,10 @@ public final class ThoughtTest {
         x.tell(0, 0, 49);
         check.due("the better line", x.match(0, 3, 0), 1);
         check.due("the least", x.match(0, 3, 1), 2360 - 8000);
+        x.row(4, 1, 40);
+        for (int i = 0; i < 40; i++) x.set(4, i, i % 2 == 0 ? 1 : 999);
+        check.due("forty from 1 to 999", x.match(4, 40, 1), 2360 - 26640);
+        check.due("1 alone", x.match(4, 1, 1), 2360);
         x.show(1, 0);
         check.due("a player", x.match(1, 1, 0), NO - 3);
         check.due("nothing", x.match(2, 1, 0), NO - 4);
@@ -271,7 +278,10 @@ public final class ThoughtTest {
         check.due("its gains", x.minutes(-1), 2 * 2450 - 32000);
         x.line(2, 1);
         x.line(0, 0);
+        x.line(3, 2);
         x.line(1, 0);
+        for (int l = 0; l < 4; l++) check.due("others of two: " + l, x.minutes(l), spells[(l + 2) % 4]);
+        x.line(3, 0);
         for (int l = 0; l < 4; l++) check.due("one line alone: " + l, x.minutes(l), l == 2 ? 8 : 0);
         check.due("its gains", x.minutes(-1), -2550 - 27000);
         check.due("bad", x.minutes(4), NO - 2);
@@ -300,6 +310,7 @@ public final class ThoughtTest {
         x.whistle(2);
         x.change(1);
         check.due("one who comes has half", x.penalty(-1), 2);
+        check.due("gains without one who comes", x.penalty(1), 80 - 100);
         check.due("bad", x.penalty(-2), NO - 2);
         check.due("bad", x.penalty(601), NO - 2);
         refusals(x, 2, 0);
@@ -330,6 +341,8 @@ public final class ThoughtTest {
             check.due("line " + w, x.judge(0, 7), 2);
             check.due("ahead of it", x.judge(0, 2), -1);
         }
+        x.set(0, 0, 3);
+        check.due("the very first", x.judge(0, 1), 0);
         int[][] bad = {{8, 0}, {-1, 0}, {2, -1}, {1, 41}, {0, 8}};
         for (int[] b : bad) check.due("bad", x.judge(b[0], b[1]), -2);
         check.due("a player", x.judge(1, 9), -3);

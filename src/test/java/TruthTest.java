@@ -11,6 +11,7 @@ public final class TruthTest {
         changeInAChange();
         skate();
         goals();
+        goalsOfEachCall();
         draws();
         minus();
         game();
@@ -118,6 +119,20 @@ public final class TruthTest {
         }
     }
 
+    private static void goalsOfEachCall() {
+        OverTheBoards x = Check.from("player 0 50 0;line 0 0;on 0;third 2");
+        int[] upper = {0, 0, 49999, 197};
+        int[] goals = {1, 1, 0, 1};
+        for (int i = 0; i < 4; i++) {
+            x.pause(100);
+            x.ask(0, 2);
+            x.seed(seedFor(upper[i]));
+            check.due("goals of call " + i, x.skate(1), goals[i]);
+        }
+        check.due("ours", x.status(10), 2);
+        check.due("against", x.status(11), 1);
+    }
+
     private static void draws() {
         OverTheBoards x = new OverTheBoards();
         int seed = 1;
@@ -179,6 +194,7 @@ public final class TruthTest {
         check.due("pause 11", x.pause(11), 2);
         int[] tired = {0, 0, 10, 20};
         for (int p = 0; p < 4; p++) check.due("tired " + p, x.playerOf(p, 3), tired[p]);
+        check.due("pause 19", x.pause(19), 1);
         check.due("pause 100", x.pause(100), 0);
         check.due("bad", x.pause(0), -2);
         check.due("bad", x.pause(101), -2);
@@ -197,7 +213,7 @@ public final class TruthTest {
         OverTheBoards x = Check.from(FOUR + ";on 0;skate 5");
         check.due("nothing was kept", x.back(), -5);
         x.change(1);
-        x.show(0, 3);
+        x.show(7, 3);
         int[] ahead = new int[20];
         for (int i = 0; i < 20; i++) ahead[i] = x.status(i);
         check.due("image", x.image(), 1);
@@ -205,7 +221,8 @@ public final class TruthTest {
             x.player(0, 99, 9);
             x.tell(0, 0, 7);
             x.line(0, 0b10000);
-            x.show(1, 4);
+            x.show(0, 4);
+            x.show(1, 3);
             x.show(2, 0);
             x.row(3, 0, 1);
             for (int what = 0; what < 4; what++) x.ask(what, what == 2 ? 7 : 0);
@@ -217,8 +234,8 @@ public final class TruthTest {
             check.due("skill", x.playerOf(0, 1), 50);
             check.due("tired", x.playerOf(0, 3), 10);
             check.due("line", x.lineOf(0, 0), 0b101);
-            int[] holds = {13, -1, 10, 0};
-            for (int s = 0; s < 4; s++) check.due("holds(" + s + ")", x.holds(s), holds[s]);
+            int[] holds = {-1, 13, 10, 0, -1, -1, -1, 13};
+            for (int s = 0; s < 8; s++) check.due("holds(" + s + ")", x.holds(s), holds[s]);
         }
         Check.feed(x, "third");
         x.player(9, 9, 9);
