@@ -55,6 +55,7 @@ public final class OverTheBoards {
     private final Tape tape = new Tape();
     private final Shelf[] shelves = new Shelf[SHELVES];
     private final int[] refused = new int[5];
+    private final Pick pick = new Pick();
     private boolean isKept = false;
 
     public OverTheBoards() {
@@ -308,18 +309,13 @@ public final class OverTheBoards {
             return refuse(STUCK);
         }
         int wanted = Math.min(MOST_IN_LINE, now.players);
-        int best = NONE;
-        int most = 0;
+        pick.begin();
         for (int set = 1; set <= now.everybody(); set++) {
             if (Integer.bitCount(set) == wanted) {
-                int power = powerWith(set);
-                if (best == NONE || power > most) {
-                    best = set;
-                    most = power;
-                }
+                pick.offer(set, powerWith(set));
             }
         }
-        return best;
+        return pick.first;
     }
 
     // ---- in thought
@@ -350,13 +346,11 @@ public final class OverTheBoards {
         }
         thought.takeFrom(now);
         thought.passSeconds(n);
-        int most = 0;
-        for (int p = 1; p < thought.players; p++) {
-            if (thought.tired[p] > thought.tired[most]) {
-                most = p;
-            }
+        pick.begin();
+        for (int p = 0; p < thought.players; p++) {
+            pick.offer(p, thought.tired[p]);
         }
-        return most;
+        return pick.first;
     }
 
     public int fresh(int l, int v) {
@@ -380,18 +374,13 @@ public final class OverTheBoards {
         if (!isIn(n, 0, MOST_SECONDS)) {
             return refuse(BAD);
         }
-        int best = NONE;
-        int most = 0;
+        pick.begin();
         for (int t = 0; t < THIRDS; t++) {
             thought.takeFrom(now);
             thought.third = t;
-            int gains = thought.gainsIn(n);
-            if (best == NONE || gains > most) {
-                best = t;
-                most = gains;
-            }
+            pick.offer(t, thought.gainsIn(n));
         }
-        return best;
+        return pick.first;
     }
 
     public int theirsFor(int n) {
@@ -440,16 +429,11 @@ public final class OverTheBoards {
         if (now.firstLine() == NONE) {
             return refuse(STUCK);
         }
-        int best = NONE;
-        int most = 0;
+        pick.begin();
         for (int k = LEAST_SHIFT; k <= MOST_SHIFT; k++) {
-            int gains = gainsOfShifts(k, n);
-            if (best == NONE || gains > most) {
-                best = k;
-                most = gains;
-            }
+            pick.offer(k, gainsOfShifts(k, n));
         }
-        return best;
+        return pick.first;
     }
 
     public int changeNow(int l, int n) {
@@ -469,16 +453,11 @@ public final class OverTheBoards {
         if (!now.hasPlayers(l)) {
             return refuse(STUCK);
         }
-        int best = NONE;
-        int most = 0;
+        pick.begin();
         for (int t = 0; t < THIRDS; t++) {
-            int gains = gainsOfChange(l, n, t);
-            if (best == NONE || gains > most) {
-                best = t;
-                most = gains;
-            }
+            pick.offer(t, gainsOfChange(l, n, t));
         }
-        return best;
+        return pick.first;
     }
 
     public int meets(int l, int v) {
@@ -507,18 +486,13 @@ public final class OverTheBoards {
         }
         // more strength of theirs never brings more, so the least MEETS is that with the strongest
         int strongest = shelf.greatestOf(n);
-        int best = NONE;
-        int most = 0;
+        pick.begin();
         for (int l = 0; l < LINES; l++) {
             if (now.hasPlayers(l)) {
-                int least = gainsOfMeeting(l, strongest);
-                if (best == NONE || least > most) {
-                    best = l;
-                    most = least;
-                }
+                pick.offer(l, gainsOfMeeting(l, strongest));
             }
         }
-        return what == 0 ? best : most;
+        return what == 0 ? pick.first : pick.most;
     }
 
     public int pull(int n, int part) {
@@ -543,18 +517,13 @@ public final class OverTheBoards {
         if (now.firstLine() == NONE) {
             return refuseGains(STUCK);
         }
-        int best = NONE;
-        int most = 0;
+        pick.begin();
         for (int share = 0; share < SHARES; share++) {
             if (mayShare(share)) {
-                int gains = gainsOfShare(share);
-                if (best == NONE || gains > most) {
-                    best = share;
-                    most = gains;
-                }
+                pick.offer(share, gainsOfShare(share));
             }
         }
-        return l == NONE ? most : spellsIn(best, l);
+        return l == NONE ? pick.most : spellsIn(pick.first, l);
     }
 
     public int penalty(int n) {
@@ -745,18 +714,13 @@ public final class OverTheBoards {
     }
 
     private int strongestLine() {
-        int best = NONE;
-        int most = 0;
+        pick.begin();
         for (int l = 0; l < LINES; l++) {
             if (now.hasPlayers(l)) {
-                int power = powerWith(now.lines[l]);
-                if (best == NONE || power > most) {
-                    best = l;
-                    most = power;
-                }
+                pick.offer(l, powerWith(now.lines[l]));
             }
         }
-        return best;
+        return pick.first;
     }
 
     private int gainsOfShifts(int k, int n) {
@@ -816,20 +780,15 @@ public final class OverTheBoards {
     }
 
     private int leastMissed() {
-        int who = NONE;
-        int most = 0;
+        pick.begin();
         for (int p = 0; p < now.players; p++) {
             if (bit(now.ice, p) == 1) {
                 thought.takeFrom(now);
                 thought.takeOff(p);
-                int power = thought.powerOfAll();
-                if (who == NONE || power > most) {
-                    who = p;
-                    most = power;
-                }
+                pick.offer(p, thought.powerOfAll());
             }
         }
-        return who;
+        return pick.first;
     }
 
     private int firstWrong(Shelf book, int n) {
@@ -1190,6 +1149,24 @@ public final class OverTheBoards {
         private int drawBelow(int n) {
             seed = seed * 1103515245 + 12345;
             return n < 1 ? 0 : (seed >>> 16) % n;
+        }
+    }
+
+    /** The greatest of what is offered one by one, of several the first. */
+    private static final class Pick {
+        private int first = NONE;
+        private int most = 0;
+
+        private void begin() {
+            first = NONE;
+            most = 0;
+        }
+
+        private void offer(int which, int worth) {
+            if (first == NONE || worth > most) {
+                first = which;
+                most = worth;
+            }
         }
     }
 
