@@ -1263,14 +1263,19 @@ public final class OverTheBoards {
             end = 0;
             for (int statements = 1; statements <= MOST_BYTES; statements++) {
                 step();
-                if (!readStatement(rink)) {
+                boolean isGood;
+                if (isWord("player")) {
+                    isGood = readPlayer(rink);
+                } else if (isWord("line")) {
+                    isGood = readLine(rink);
+                } else {
+                    isGood = readOneNumber(rink);
+                }
+                if (!isGood || token != END && token != SIGN) {
                     return NONE;
                 }
                 if (token == END) {
                     return statements;
-                }
-                if (token != SIGN) {
-                    return NONE;
                 }
             }
             return NONE;
@@ -1332,17 +1337,7 @@ public final class OverTheBoards {
             return numberIn(least, most);
         }
 
-        /** Begins on its WORD; behind a good one it stands on the TOKEN that follows. */
-        private boolean readStatement(Rink rink) {
-            if (isWord("player")) {
-                return readPlayer(rink);
-            }
-            if (isWord("line")) {
-                return readLine(rink);
-            }
-            return readOneNumber(rink);
-        }
-
+        /** Each reader of a STATEMENT begins on its WORD; behind a good one it stands on the TOKEN that follows. */
         private boolean readPlayer(Rink rink) {
             if (!rink.hasRoom()) {
                 return false;

@@ -6,7 +6,9 @@ import java.lang.reflect.Modifier;
 import java.nio.file.Files;
 import java.nio.file.Path;
 import java.util.List;
+import java.util.Map;
 import java.util.Set;
+import java.util.TreeMap;
 import java.util.TreeSet;
 import java.util.regex.Matcher;
 import java.util.regex.Pattern;
@@ -28,6 +30,7 @@ public final class LanguageTest {
         nestedClasses();
         words(Files.readString(Path.of("src/main/java/OverTheBoards.java")));
         lengths(Files.readAllLines(Path.of("src/main/java/OverTheBoards.java")));
+        depths(Files.readString(Path.of("src/main/java/OverTheBoards.java")));
         check.end("LanguageTest");
     }
 
@@ -98,6 +101,28 @@ public final class LanguageTest {
                 begun = -1;
             }
         }
+    }
+
+    /** By names alone: methods of one name count as one, and a call of the library as one level more. */
+    private static void depths(String text) {
+        String code = text.replaceAll("(?s)/\\*.*?\\*/", "").replaceAll("//[^\n]*", "");
+        Matcher m = Pattern.compile("(?ms)^(    |        )(?:public|private)(?: static)? [\\w\\[\\]]+ (\\w+)\\([^)]*\\) \\{\n(.*?)^\\1\\}")
+            .matcher(code);
+        Map<String, Set<String>> calls = new TreeMap<>();
+        while (m.find()) {
+            Set<String> called = calls.computeIfAbsent(m.group(2), name -> new TreeSet<>());
+            Matcher call = Pattern.compile("\\b(?!if\\b|for\\b|while\\b|switch\\b|return\\b)(\\w+)\\(").matcher(m.group(3));
+            while (call.find()) called.add(call.group(1));
+        }
+        due("methods were found", calls.size() > 100);
+        for (String name : calls.keySet()) due("calls of " + name + " go eight deep at most", depth(calls, name, 0) <= 8);
+    }
+
+    private static int depth(Map<String, Set<String>> calls, String name, int above) {
+        int most = 0;
+        if (above > 20) return 0;
+        for (String next : calls.getOrDefault(name, Set.of())) most = Math.max(most, depth(calls, next, above + 1));
+        return most + 1;
     }
 
     private static void due(String what, boolean holds) {
