@@ -373,9 +373,8 @@ final class EdgeTerms {
         e.refused(EdgeTerms::full, "game(1)", y -> y.game(1), -1000000005);
     }
 
-    /** The document's own limit: "An object is used for at most 512 calls after it has been made". */
     private void calls() {
-        e.at(0, "SECOND (0 at first)");
+        e.at(Edges.USE, "An object is used for at most 512 calls after it has been made");
         OverTheBoards x = Check.from("player 0 50 0;line 0 0;on 0");
         // 28 calls so far
         for (int i = 29; i < 512; i++) x.skate(300);

@@ -171,6 +171,8 @@ final class EdgeThought {
         e.due("third(600) of nobody", new OverTheBoards().third(600), 2);
         OverTheBoards strong = one();
         strong.ask(2, 1);
+        // each THIRD is thought of from how things stand, not from how the last one left the PLAYERS
+        e.due("gains(0)", strong.gains(0), 0);
         e.due("third(50) against 1", strong.third(50), 2);
         e.at(25, "BAD.");
         e.refusedEach(EdgeThought::one, "third(#)", (y, v) -> y.third(v), Edges.BAD, NO_SECONDS);

@@ -14,6 +14,8 @@ import java.util.function.ToLongFunction;
  */
 final class Edges {
     static final int TERMS = 0;
+    /** "What it is", ahead of Terms; it has one sentence that can be tested. */
+    static final int USE = -1;
     static final int NONE = -1;
     static final int BAD = -2;
     static final int OTHER = -3;
@@ -43,8 +45,12 @@ final class Edges {
         if (!isHeld) check.due(where() + " has an answer that is held to it", 0, 1);
     }
 
+    private static String name(int promise) {
+        return promise == USE ? "What it is" : promise == TERMS ? "Terms" : "promise " + promise;
+    }
+
     private String where() {
-        return (promise == TERMS ? "Terms" : "promise " + promise) + ", \"" + sentence + "\":";
+        return name(promise) + ", \"" + sentence + "\":";
     }
 
     void due(String call, long got, long want) {
@@ -100,6 +106,7 @@ final class Edges {
         Path document = Path.of(shared == null ? "../shared" : shared, "DOC.md");
         if (Files.exists(document)) {
             String text = Files.readString(document);
+            for (String s : sentences.get(USE)) check.due(name(USE) + " has the words \"" + s + "\"", text.contains(s) ? 1 : 0, 1);
             for (int p = TERMS; p <= 50; p++) holdToDocument(p, p == TERMS ? terms(text) : promise(text, p));
         } else {
             System.out.println(test + ": no " + document + ", so the sentences aren't held to it");
@@ -110,7 +117,7 @@ final class Edges {
     private void holdToDocument(int p, String text) {
         boolean[] told = new boolean[text.length()];
         for (String s : sentences.getOrDefault(p, List.of())) {
-            check.due("promise " + p + " has the words \"" + s + "\"", text.contains(s) ? 1 : 0, 1);
+            check.due(name(p) + " has the words \"" + s + "\"", text.contains(s) ? 1 : 0, 1);
             for (int at = text.indexOf(s); at >= 0; at = text.indexOf(s, at + 1)) {
                 for (int i = 0; i < s.length(); i++) told[at + i] = true;
             }
@@ -118,7 +125,7 @@ final class Edges {
         StringBuilder left = new StringBuilder();
         for (int i = 0; i < text.length(); i++) left.append(told[i] ? '_' : text.charAt(i));
         String words = left.toString().replaceAll("[_\\s;:,.()]+", " ").trim();
-        check.due("promise " + p + ": words without a test: " + words, words.length(), 0);
+        check.due(name(p) + ": words without a test: " + words, words.length(), 0);
     }
 
     private static String between(String text, String from, String to) {
