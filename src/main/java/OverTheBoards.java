@@ -728,7 +728,8 @@ public final class OverTheBoards {
         int l = thought.firstLine();
         thought.putOn(thought.lines[l]);
         int gains = 0;
-        for (int gone = 0; gone < n; gone += k) {
+        // k is no less, but so the loop's end is seen from its own line
+        for (int gone = 0; gone < n; gone += Math.max(LEAST_SHIFT, k)) {
             if (gone > 0) {
                 l = thought.nextLine(l);
                 thought.beginChange(l);

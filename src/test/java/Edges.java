@@ -1,6 +1,4 @@
 import java.io.IOException;
-import java.nio.file.Files;
-import java.nio.file.Path;
 import java.util.ArrayList;
 import java.util.List;
 import java.util.Map;
@@ -102,14 +100,12 @@ final class Edges {
 
     void end(String test) throws IOException {
         closeSentence();
-        String shared = System.getenv("SHARED");
-        Path document = Path.of(shared == null ? "../shared" : shared, "DOC.md");
-        if (Files.exists(document)) {
-            String text = Files.readString(document);
-            for (String s : sentences.get(USE)) check.due(name(USE) + " has the words \"" + s + "\"", text.contains(s) ? 1 : 0, 1);
-            for (int p = TERMS; p <= 50; p++) holdToDocument(p, p == TERMS ? terms(text) : promise(text, p));
-        } else {
-            System.out.println(test + ": no " + document + ", so the sentences aren't held to it");
+        Document document = Document.find(test);
+        if (document != null) {
+            for (String s : sentences.get(USE)) {
+                check.due(name(USE) + " has the words \"" + s + "\"", document.text().contains(s) ? 1 : 0, 1);
+            }
+            for (int p = TERMS; p <= Document.PROMISES; p++) holdToDocument(p, p == TERMS ? document.terms() : document.promise(p));
         }
         check.end(test);
     }
@@ -126,22 +122,5 @@ final class Edges {
         for (int i = 0; i < text.length(); i++) left.append(told[i] ? '_' : text.charAt(i));
         String words = left.toString().replaceAll("[_\\s;:,.()]+", " ").trim();
         check.due(name(p) + ": words without a test: " + words, words.length(), 0);
-    }
-
-    private static String between(String text, String from, String to) {
-        int begin = text.indexOf(from);
-        int end = begin < 0 ? -1 : text.indexOf(to, begin + from.length());
-        return begin < 0 || end < 0 ? "" : text.substring(begin + from.length(), end);
-    }
-
-    /** What a promise says behind its signature, which LanguageTest holds the class to. */
-    private static String promise(String text, int p) {
-        String all = between(text, "\n## Promise " + p + ":", "\n## ");
-        return all.substring(all.indexOf("`:") + 2).replaceAll("\\s+", " ").trim();
-    }
-
-    private static String terms(String text) {
-        return between(text, "\n## Terms\n", "\n## Promise 1:").replace("```text", "").replace("```", "")
-            .replaceAll("==== \\d\\. [A-Z ]+", "").replace("THE RINK\n", "").replaceAll("\\s+", " ").trim();
     }
 }

@@ -34,7 +34,7 @@ public final class LanguageTest {
         check.end("LanguageTest");
     }
 
-    private static void face() {
+    private static void face() throws IOException {
         Set<String> want = new TreeSet<>();
         for (String call : FACE.split(";")) want.add(call.trim().replaceAll("\\s+", " "));
         Set<String> got = new TreeSet<>();
@@ -51,6 +51,7 @@ public final class LanguageTest {
             check.due("parameters of " + b, m.getParameterCount() <= 7 ? 1 : 0, 1);
         }
         due("the face is the document's: " + got, got.equals(want));
+        faceOfDocument(want);
         for (String call : want) due("hidden method named " + call, !hidden.contains(call.split(" ")[0]));
         for (Field f : OverTheBoards.class.getDeclaredFields()) {
             due("field " + f.getName(), Modifier.isPrivate(f.getModifiers()) || f.getName().equals("NONE"));
@@ -59,6 +60,18 @@ public final class LanguageTest {
         Constructor<?>[] made = OverTheBoards.class.getDeclaredConstructors();
         due("one constructor", made.length == 1 && made[0].getParameterCount() == 0);
         due("the class is final", Modifier.isFinal(OverTheBoards.class.getModifiers()));
+    }
+
+    private static void faceOfDocument(Set<String> want) throws IOException {
+        Document document = Document.find("LanguageTest");
+        if (document == null) return;
+        Set<String> told = new TreeSet<>();
+        Matcher m = Pattern.compile("public (int|long) (\\w+)\\((.*?)\\);").matcher(document.face());
+        while (m.find()) {
+            told.add((m.group(2) + " " + m.group(3).replaceAll("(\\w+) \\w+,? *", "$1 ")).trim());
+            due("only element tells a long: " + m.group(2), m.group(1).equals("long") == m.group(2).equals("element"));
+        }
+        due("the document's face is still the one that is held here: " + told, told.equals(want));
     }
 
     private static void nestedClasses() {
